@@ -12,6 +12,7 @@ final class TextTest {
         tooMany();
         theLaterHolds();
         toldAnew();
+        toldOverAndOver();
         CHECK.end();
     }
 
@@ -162,6 +163,29 @@ final class TextTest {
         CHECK.due("an empty text", x.realm(), 0);
         CHECK.due("no pockets", x.count(0), 0);
         CHECK.due("no things", x.count(1), 0);
+    }
+
+    private static void toldOverAndOver() {
+        PocketLaws x = new PocketLaws();
+        for (int i = 0; i < 4; i++) {
+            Check.type(x, K + "k9 0 7 0;n1 0;s0 1;h0 1 5;y0 1 2;y0 1 2;y0 1 2;y0 1 2;t2 1 1 0;");
+            CHECK.due("told", x.realm(), 10);
+            CHECK.due("treaties told", x.count(2), 4);
+            CHECK.due("things", x.count(1), 1);
+            Check.type(x, "k9 0 3 9;k9 0 7 9;s0 1;t2 1 1 0;");
+            CHECK.due("told", x.realm(), 4);
+            CHECK.due("no treaties told", x.count(2), 0);
+            CHECK.due("no treaty", x.way(0, 1, 1), 7);
+            CHECK.due("no treaty", x.moves(0, 1), 7);
+            CHECK.due("no treaty", x.moves(0, 0), 3);
+            CHECK.due("no hole", x.drops(0, 1), 0);
+            CHECK.due("no law but its own", x.fixed(2), 1);
+            CHECK.due("no law but its own", x.letsIn(1, 2), 1);
+            CHECK.due("no outer", x.pocket(1, 3), 9);
+            Check.type(x, K + K + "s0 1;y1 0 2;y");
+            CHECK.due("refused", x.realm(), -10 - 31);
+            x.clear();
+        }
     }
 
     private static PocketLaws reads(String text, int items) {
