@@ -1,6 +1,7 @@
 /** Counts the answers of a test that are not the ones due; prints each of them. */
 final class Check {
     private final String name;
+    private String sentence = "";
     private int asked;
     private int wrong;
 
@@ -8,11 +9,16 @@ final class Check {
         this.name = name;
     }
 
+    /** The words of the document that the checks behind this look at: printed with each wrong answer. */
+    void sentence(String words) {
+        sentence = " \"" + words + "\":";
+    }
+
     void due(String call, long got, long want) {
         asked++;
         if (got != want) {
             wrong++;
-            System.out.println(name + ": " + call + " answered " + got + ", due is " + want);
+            System.out.println(name + ":" + sentence + " " + call + " answered " + got + ", due is " + want);
         }
     }
 
@@ -26,6 +32,23 @@ final class Check {
         type(laws, text);
         holds("realm of " + text, laws.realm() >= 0);
         return laws;
+    }
+
+    /** A new object to which a text of so many items is told. */
+    PocketLaws reads(String text, int items) {
+        PocketLaws x = new PocketLaws();
+        type(x, text);
+        due("realm of '" + text + "'", x.realm(), items);
+        due("the text is empty behind '" + text + "'", x.count(3), 0);
+        return x;
+    }
+
+    void faults(String text, int place) {
+        PocketLaws x = new PocketLaws();
+        type(x, text);
+        due("realm of '" + text + "'", x.realm(), -10 - place);
+        due("the text stays '" + text + "'", x.count(3), text.length());
+        due("nothing told by '" + text + "'", x.count(0), 0);
     }
 
     static void type(PocketLaws laws, String text) {

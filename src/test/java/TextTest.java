@@ -189,18 +189,10 @@ final class TextTest {
     }
 
     private static PocketLaws reads(String text, int items) {
-        PocketLaws x = new PocketLaws();
-        Check.type(x, text);
-        CHECK.due("realm of '" + text + "'", x.realm(), items);
-        CHECK.due("the text is empty behind '" + text + "'", x.count(3), 0);
-        return x;
+        return CHECK.reads(text, items);
     }
 
     private static void faults(String text, int place) {
-        PocketLaws x = new PocketLaws();
-        Check.type(x, text);
-        CHECK.due("realm of '" + text + "'", x.realm(), -10 - place);
-        CHECK.due("the text stays '" + text + "'", x.count(3), text.length());
-        CHECK.due("nothing told by '" + text + "'", x.count(0), 0);
+        CHECK.faults(text, place);
     }
 }
