@@ -32,6 +32,7 @@ final class EdgesOfTextTest {
         promiseType();
         promiseClear();
         promiseRealm();
+        toldOverAndOver();
         refusedRealm();
         CHECK.end();
     }
@@ -147,6 +148,13 @@ final class EdgesOfTextTest {
         CHECK.due("from a third one", x.moves(3, 1), 3);
         CHECK.due("and back", x.moves(3, 0), 0);
         CHECK.due("another sort", x.moves(2, 1), 3);
+        x = CHECK.reads(ahead + "y0 1 3;y1 0 5;y1 2 0;", 14);
+        int[] paid = {3, 3, 3, 0, 3, 0};
+        for (int t = 0; t < 6; t++) {
+            CHECK.due("two sorts of the same two: " + t, x.way(t, 1, 1), paid[t]);
+            x.moves(t, 1);
+            CHECK.due("and back: " + t, x.way(t, 0, 1), paid[t] == 0 ? 0 : 2);
+        }
     }
 
     /** The one thing that comes to pocket 1 for nothing. */
@@ -450,6 +458,29 @@ final class EdgesOfTextTest {
         CHECK.due("no treaty is left", x.way(0, 0, 1), 7);
         CHECK.due("no hole is left", x.drops(0, 9), 1);
         CHECK.due("no hole is left", x.night(), 0);
+    }
+
+    private static void toldOverAndOver() {
+        CHECK.sentence("THE TEXT tells all anew");
+        String rich = "k9 0 1 9;k9 0 5 9;k9 63 2 1;n1 0;a0 2;s0 1;s1 2;h0 1 5;h1 2 5;y0 1 0;y1 0 1;t0 1 0 0;t1 1 0 1;";
+        String plain = "k9 0 7 9;k9 4 6 9;k9 0 5 9;s0 1;t0 1 9 1;t1 1 9 0;";
+        String told = Seen.of(CHECK.reads(plain, 6));
+        PocketLaws x = new PocketLaws();
+        for (int round = 0; round < 3; round++) {
+            // Over and over, since a reading may come upon the leavings of one before the last.
+            for (String text : new String[] {rich, plain, rich + "?", plain, plain}) {
+                x.clear();
+                Check.type(x, text);
+                CHECK.holds("refused just if it is at fault", x.realm() < 0 == text.endsWith("?"));
+                if (text.equals(plain)) {
+                    CHECK.holds("nothing is left of what was told", Seen.of(x).equals(told));
+                    CHECK.due("no treaty is left", x.way(0, 0, 1), 7);
+                    CHECK.due("no treaty is left", x.way(1, 1, 1), 6);
+                    CHECK.due("no seam is left", x.way(0, 2, 1), PocketLaws.NONE);
+                    CHECK.due("no hole is left", x.drops(0, 9), 1);
+                }
+            }
+        }
     }
 
     private static void refusedRealm() {
