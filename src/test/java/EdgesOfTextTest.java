@@ -337,6 +337,10 @@ final class EdgesOfTextTest {
         for (int letter = 0; letter < 256; letter++) {
             char c = (char) letter;
             boolean digit = c >= '0' && c <= '9';
+            if (!digit && c != ' ') {
+                CHECK.faults("k9 " + c + " 0 9;", 3);
+                CHECK.faults("k9 0 0 " + c + ";", 7);
+            }
             if ("kanshyt".indexOf(c) >= 0) {
                 CHECK.faults(K + c, 10);
                 CHECK.faults("k" + c, 1);
